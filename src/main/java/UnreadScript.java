@@ -1210,7 +1210,7 @@ public final class UnreadScript {
         int lines = 0;
         final int[] actions = new int[CONSONANTS * STANDS];
         final int[] others = new int[CONSONANTS * STANDS];
-        private byte[] text = null;
+        private final byte[] text = new byte[TAPE_BYTES];
         private int textLength = 0;
         private int tokenKind = TEXT_END;
         private int tokenStart = 0;
@@ -1221,8 +1221,8 @@ public final class UnreadScript {
         private int misuseAt = NONE;
 
         void readText(byte[] bytes, int length) {
-            text = bytes;
-            textLength = length;
+            textLength = Math.min(length, TAPE_BYTES);
+            System.arraycopy(bytes, 0, text, 0, textLength);
             lines = 0;
             Arrays.fill(actions, NONE);
             Arrays.fill(others, NONE);
@@ -1483,10 +1483,12 @@ public final class UnreadScript {
         private final int[] rowConsonant = new int[SIGNS];
         private final int[] columnUsers = new int[SIGNS];
         private final int[] columnVowel = new int[SIGNS];
-        private Grid grid = null;
+        private final int[] rowOf = new int[SIGNS];
+        private final int[] columnOf = new int[SIGNS];
 
-        void start(Grid newGrid) {
-            grid = newGrid;
+        void start(Grid grid) {
+            System.arraycopy(grid.rows, 0, rowOf, 0, SIGNS);
+            System.arraycopy(grid.columns, 0, columnOf, 0, SIGNS);
             Arrays.fill(valueOf, NONE);
             Arrays.fill(signOf, NONE);
             Arrays.fill(rowUsers, 0);
@@ -1497,21 +1499,21 @@ public final class UnreadScript {
             if (valueOf[sign] != NONE || signOf[value] != NONE) {
                 return false;
             }
-            int row = grid.rows[sign];
+            int row = rowOf[sign];
             if (rowUsers[row] > 0 && rowConsonant[row] != value / VOWELS) {
                 return false;
             }
-            int column = grid.columns[sign];
+            int column = columnOf[sign];
             return columnUsers[column] == 0 || columnVowel[column] == value % VOWELS;
         }
 
         void bind(int sign, int value) {
             valueOf[sign] = value;
             signOf[value] = sign;
-            int row = grid.rows[sign];
+            int row = rowOf[sign];
             rowUsers[row]++;
             rowConsonant[row] = value / VOWELS;
-            int column = grid.columns[sign];
+            int column = columnOf[sign];
             columnUsers[column]++;
             columnVowel[column] = value % VOWELS;
         }
@@ -1519,8 +1521,8 @@ public final class UnreadScript {
         void unbind(int sign) {
             signOf[valueOf[sign]] = NONE;
             valueOf[sign] = NONE;
-            rowUsers[grid.rows[sign]]--;
-            columnUsers[grid.columns[sign]]--;
+            rowUsers[rowOf[sign]]--;
+            columnUsers[columnOf[sign]]--;
         }
     }
 
@@ -1535,12 +1537,14 @@ public final class UnreadScript {
         final int[] keptWords = new int[NAMES];
         final int[] keptValues = new int[SIGNS];
         private int keptReading = NONE;
-        private Corpus corpus = null;
-        private Speller speller = null;
         private final Assignment assignment = new Assignment();
         private final int[] pool = new int[NAME_WORDS];
+        private final int[] poolSigns = new int[NAME_WORDS * WORD_LENGTH];
+        private final int[] poolLength = new int[NAME_WORDS];
         private int poolSize = 0;
         private final int[] sought = new int[NAMES];
+        private final int[] soughtValues = new int[NAMES * WORD_LENGTH];
+        private final int[] soughtLength = new int[NAMES];
         private int depth = 0;
         private int usedMask = 0;
         /** For each level and word of the pool, in how many readings the word is that level's name. */
@@ -1549,37 +1553,44 @@ public final class UnreadScript {
         private final int[] sureCount = new int[SIGNS];
         private int toSkip = 0;
 
-        void build(Corpus newCorpus, int horizon, Grid grid, Speller newSpeller) {
-            corpus = newCorpus;
-            speller = newSpeller;
+        void build(Corpus corpus, int horizon, Grid grid, Speller speller) {
             keptReading = NONE;
             usedMask = 0;
             assignment.start(grid);
             Arrays.fill(held, 0);
             Arrays.fill(sureValue, NONE);
             Arrays.fill(sureCount, 0);
-            gatherPool(horizon);
-            gatherNames();
+            gatherPool(corpus, horizon);
+            gatherNames(speller);
             total = grid.broken || depth == 0 ? 0 : tally(0);
             chooseBest();
         }
 
-        private void gatherPool(int horizon) {
+        private void gatherPool(Corpus corpus, int horizon) {
             poolSize = 0;
             int seen = corpus.seenWords(horizon);
             for (int word = 0; word < seen && poolSize < NAME_WORDS; word++) {
                 if (corpus.nameMark[word] == 1) {
                     pool[poolSize] = word;
+                    poolLength[poolSize] = corpus.length[word];
+                    for (int at = 0; at < WORD_LENGTH; at++) {
+                        poolSigns[poolSize * WORD_LENGTH + at] = corpus.signAt(word, at);
+                    }
                     poolSize++;
                 }
             }
         }
 
-        private void gatherNames() {
+        private void gatherNames(Speller speller) {
             depth = 0;
             for (int name = 0; name < NAMES; name++) {
-                if (speller.spelledLength(name) > 0) {
+                int length = speller.spelledLength(name);
+                if (length > 0) {
                     sought[depth] = name;
+                    soughtLength[depth] = length;
+                    for (int at = 0; at < length; at++) {
+                        soughtValues[depth * WORD_LENGTH + at] = speller.valueAt(name, at);
+                    }
                     depth++;
                 }
             }
@@ -1643,17 +1654,15 @@ public final class UnreadScript {
 
         /** The signs that are bound anew by a word for a level's name, as a mask; NONE if it can't be. */
         private int place(int level, int i) {
-            int name = sought[level];
-            int word = pool[i];
-            int length = corpus.length[word];
-            if (inMask(usedMask, i) || length != speller.spelledLength(name)) {
+            int length = poolLength[i];
+            if (length != soughtLength[level] || inMask(usedMask, i)) {
                 return NONE;
             }
             usedMask |= 1 << i;
             int bound = 0;
             for (int at = 0; at < length; at++) {
-                int sign = corpus.signAt(word, at);
-                int value = speller.valueAt(name, at);
+                int sign = poolSigns[i * WORD_LENGTH + at];
+                int value = soughtValues[level * WORD_LENGTH + at];
                 if (sign == GAP || assignment.valueOf[sign] == value) {
                     continue;
                 }
@@ -1669,10 +1678,9 @@ public final class UnreadScript {
 
         /** A sign is lifted by the word that bound it, so each reading counts once for each of its signs. */
         private void lift(int i, int bound, int below) {
-            int word = pool[i];
             usedMask &= ~(1 << i);
-            for (int at = 0; at < corpus.length[word]; at++) {
-                int sign = corpus.signAt(word, at);
+            for (int at = 0; at < poolLength[i]; at++) {
+                int sign = poolSigns[i * WORD_LENGTH + at];
                 if (inMask(bound, sign) && assignment.valueOf[sign] != NONE) {
                     noteValue(sign, assignment.valueOf[sign], below);
                     assignment.unbind(sign);

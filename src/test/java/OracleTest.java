@@ -16,6 +16,7 @@ public final class OracleTest {
     private final int stem;
     private final boolean wild;
     private final int kind;
+    private final boolean restless;
 
     private OracleTest(long seed) {
         random = new Random(seed);
@@ -23,6 +24,7 @@ public final class OracleTest {
         signs = new int[] {3, 5, 8, 20}[random.nextInt(4)];
         stem = 1 + random.nextInt(5);
         wild = random.nextInt(8) == 0;
+        restless = random.nextInt(4) == 0;
     }
 
     public static void main(String[] args) {
@@ -41,6 +43,7 @@ public final class OracleTest {
 
     private void run(int seed) {
         for (int i = 0; i < CALLS && wrong == 0; i++) {
+            if (restless && random.nextInt(6) == 0) whole();
             if (kind == 0 || random.nextInt(3) == 0) records();
             else if (kind == 1 || random.nextInt(3) == 0) sums();
             else if (kind == 2 || random.nextInt(2) == 0) names();
@@ -257,7 +260,7 @@ public final class OracleTest {
             case 0: if (day < 500 || random.nextInt(500) == 0) due(6, "day(" + day + ")", x.day(day), o.day(day)); break;
             case 1: due(7, "view(" + view + ")", x.view(view), o.view(view)); break;
             case 2: due(35, "image(" + k + ")", x.image(k), o.image(k)); break;
-            case 3: if (random.nextInt(4) == 0) due(36, "again(" + k + ")", x.again(k), o.again(k)); break;
+            case 3: if (restless || random.nextInt(4) == 0) due(36, "again(" + k + ")", x.again(k), o.again(k)); break;
             default: due(34, "many(" + what + ")", x.many(what), o.many(what)); break;
         }
     }

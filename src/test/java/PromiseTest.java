@@ -38,6 +38,7 @@ public final class PromiseTest {
         manyReadings();
         views();
         images();
+        imagesApart();
         wrongCalls();
         System.out.println(wrong == 0 ? "all promises hold" : wrong + " answers are not as due");
         if (wrong != 0) System.exit(1);
@@ -277,6 +278,17 @@ public final class PromiseTest {
         due("broken by a word", y.breaker(), 5);
         y.view(3);
         due("not by a view ahead", y.breaker(), NONE);
+        int[][] pairs = {{0, 1}, {18, 19}, {0, 19}};
+        for (int[] p : pairs) {
+            UnreadScript z = new UnreadScript();
+            find(z, false, 2, 2, p[0]);
+            find(z, false, 2, 2, p[1]);
+            z.tell(0, 3);
+            z.tell(1, 3);
+            due("broken by " + p[0] + " and " + p[1], z.breaker(), 3);
+            due("row", z.row(p[1]), p[0]);
+            due("column", z.column(p[1]), p[0]);
+        }
     }
 
     private static void uses() {
@@ -897,6 +909,64 @@ public final class PromiseTest {
         due("again 0 is not spoilt", x.again(0), true);
         due("words", x.many(0), 1);
         due("the day may go on", x.day(3), true);
+    }
+
+    /** Two histories that part at image 0 and write over the same places. */
+    private static void imagesApart() {
+        promise = 37;
+        UnreadScript x = new UnreadScript();
+        x.image(0);
+        history(x, 1, "a", "k end:drop;", "ka", 3);
+        x.image(1);
+        x.again(0);
+        history(x, 2, "kekiko", "k open:as t;t end:last;", "topi", 9);
+        x.image(2);
+        for (int round = 0; round < 2; round++) {
+            x.again(1);
+            isHistory(x, 1, 1, 3, "ka");
+            due("first value", x.spelled(0, 0), 0);
+            due("the first ratio", x.sureRatio(0), 4);
+            due("lines", x.many(4), 1);
+            x.again(2);
+            isHistory(x, 2, 3, 9, "topi");
+            due("first value", x.spelled(0, 0), 9);
+            due("the first ratio", x.sureRatio(0), 5);
+            due("lines", x.many(4), 2);
+            x.again(0);
+            due("words", x.many(0), 0);
+        }
+    }
+
+    private static void history(UnreadScript x, int day, String name, String lines, String tape, int sign) {
+        x.site(day);
+        x.day(day);
+        for (int i = 0; i < day; i++) find(x, i == 0, sign, sign + 1, sign + 2);
+        x.tell(0, day);
+        x.account();
+        x.count(0, false, 3 + day, 0, 0, 0);
+        x.count(0, true, 0, 1, 0, 0);
+        name(x, name);
+        spelling(x, lines);
+        put(x, tape);
+    }
+
+    private static void isHistory(UnreadScript x, int day, int values, int sign, String tape) {
+        due("day", x.many(5), day);
+        due("words", x.many(0), day);
+        due("site", x.about(0, 1), day);
+        due("found on", x.about(0, 2), day);
+        due("case", x.about(0, 4), day);
+        due("told on", x.telling(day, 2), day);
+        due("sign", x.about(0, 10), sign);
+        due("may be a name's", x.about(0, 3), 1);
+        due("all values", x.spelled(0, values - 1) != NONE && x.spelled(0, values) == NONE, true);
+        x.view(day - 1);
+        due("not seen the day before", x.many(8), 0);
+        due("rows not seen the day before", x.sets(), 1331);
+        x.view(NONE);
+        due("the tape's end", x.end(tape.length() + 1), NONE);
+        due("the tape", x.name(), 1);
+        due("the tape's first letter", x.spelled(1, 0), tape.equals("ka") ? 4 : 11);
     }
 
     /** No call fails, whatever it is given, and none of these changes anything that is counted. */
