@@ -66,6 +66,8 @@ final class Oracle {
 
     private State now = new State();
     private final State[] images = new State[3];
+    /** The readings, as long as nothing is told; they are too dear to be worked out for every call. */
+    private List<int[]> kept = null;
 
     boolean site(int site) {
         if (site < 0 || site > 3) return false;
@@ -74,6 +76,7 @@ final class Oracle {
     }
 
     int word(boolean name, int... given) {
+        kept = null;
         List<Integer> signs = new ArrayList<>();
         for (int s : given) signs.add(s);
         while (!signs.isEmpty() && signs.get(signs.size() - 1) == -1) signs.remove(signs.size() - 1);
@@ -91,6 +94,7 @@ final class Oracle {
     }
 
     int tell(int word, int kind) {
+        kept = null;
         if (word < 0 || word >= now.words.size() || kind < 0 || kind > 3 || now.tellings.size() == 150) return -1;
         now.tellings.add(new Telling(word, kind, now.day));
         return now.tellings.size() - 1;
@@ -121,6 +125,7 @@ final class Oracle {
     }
 
     boolean view(int day) {
+        kept = null;
         if (day < -1 || day > now.day) return false;
         now.view = day;
         return true;
@@ -411,6 +416,7 @@ final class Oracle {
     }
 
     int name() {
+        kept = null;
         String text = takeTape();
         if (now.names.size() == 5) return -2;
         if (text.isEmpty()) return fails(1, 0);
@@ -423,6 +429,7 @@ final class Oracle {
     private static final Pattern TOKEN = Pattern.compile("[a-z]+|[^a-z\\n ]", Pattern.DOTALL);
 
     int spelling() {
+        kept = null;
         String text = takeTape();
         List<String> tokens = new ArrayList<>();
         List<Integer> places = new ArrayList<>();
@@ -515,6 +522,11 @@ final class Oracle {
 
     /** Each reading: for each name a word, or -1. */
     private List<int[]> allReadings() {
+        if (kept == null) kept = workOutReadings();
+        return kept;
+    }
+
+    private List<int[]> workOutReadings() {
         List<int[]> list = new ArrayList<>();
         boolean any = false;
         for (int name = 0; name < seenNames(); name++) any |= spell(now.names.get(name).text) != null;
@@ -645,6 +657,7 @@ final class Oracle {
     }
 
     boolean again(int k) {
+        kept = null;
         if (k < 0 || k > 2 || images[k] == null) return false;
         now = images[k].copy();
         return true;

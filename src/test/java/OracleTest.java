@@ -31,6 +31,9 @@ public final class OracleTest {
         for (int seed = 0; seed < 160 && wrong == 0; seed++) {
             new OracleTest(seed).run(seed);
         }
+        for (int seed = 1000; seed < 1300 && wrong == 0; seed++) {
+            new OracleTest(seed).runHidden(seed);
+        }
         for (int i = 0; i < 37; i++) {
             if (asked[i] > 0 && told[i] == 0) {
                 System.out.println("call " + i + " never answered anything but none in " + asked[i] + " draws");
@@ -50,6 +53,76 @@ public final class OracleTest {
             else whole();
         }
         if (wrong != 0) System.out.println("seed " + seed + " after:\n" + log);
+    }
+
+    /** Words and names that a hidden value for each sign makes, so that readings of several names are found. */
+    private void runHidden(int seed) {
+        int used = draw(3, 6);
+        int[] hidden = new int[used];
+        for (int s = 0; s < used; s++) {
+            boolean again = true;
+            while (again) {
+                hidden[s] = random.nextInt(28) % draw(6, 28);
+                again = false;
+                for (int t = 0; t < s; t++) again |= hidden[t] == hidden[s];
+            }
+        }
+        for (int round = 0; round < 3 && wrong == 0; round++) {
+            for (int i = draw(1, 3); i > 0; i--) hiddenWord(hidden);
+            for (int i = draw(0, 2); i > 0; i--) word(true);
+            if (random.nextInt(3) == 0) hiddenCase(hidden);
+            if (random.nextInt(3) == 0) hiddenEnding(hidden);
+            askReadings();
+            whole();
+        }
+        if (wrong != 0) System.out.println("seed " + seed + " after:\n" + log);
+    }
+
+    private void hiddenWord(int[] hidden) {
+        int[] w = {-1, -1, -1, -1, -1};
+        StringBuilder text = new StringBuilder();
+        int length = random.nextInt(3) == 0 ? draw(1, 4) : 2;
+        for (int i = 0; i < length; i++) {
+            w[i] = random.nextInt(hidden.length);
+            int consonant = hidden[w[i]] / 4;
+            if (consonant > 0) text.append("ktpsnr".charAt(consonant - 1));
+            text.append("aeio".charAt(hidden[w[i]] % 4));
+        }
+        if (random.nextInt(6) == 0) w[random.nextInt(length)] = 20;
+        if (random.nextInt(5) != 0) find(true, w);
+        if (random.nextInt(5) != 0) {
+            put(text.toString());
+            due(25, "name()", x.name(), o.name());
+        }
+        if (random.nextInt(5) == 0) find(true, w);
+    }
+
+    private void hiddenCase(int[] hidden) {
+        int sign = random.nextInt(hidden.length);
+        find(false, new int[] {sign, -1, -1, -1, -1});
+        int word = o.many(0) - 1;
+        int c = hidden[sign] % 4;
+        due(3, "tell(" + word + ", " + c + ")", x.tell(word, c), o.tell(word, c));
+    }
+
+    private void hiddenEnding(int[] hidden) {
+        int a = random.nextInt(hidden.length);
+        for (int b = 0; b < hidden.length; b++) {
+            if (hidden[a] / 4 == hidden[b] / 4) find(false, new int[] {19, a, b, -1, -1});
+        }
+    }
+
+    private void askReadings() {
+        due(29, "readings()", x.readings(), o.readings());
+        int n = o.readings();
+        for (int i = 0; i < 4 && wrong == 0; i++) {
+            int k = i == 0 ? n - 1 : i == 1 ? n : near(0, n);
+            for (int name = 0; name < 5; name++) due(30, "reading(" + k + ", " + name + ")", x.reading(k, name), o.reading(k, name));
+            int s = random.nextInt(7);
+            due(31, "value(" + k + ", " + s + ")", x.value(k, s), o.value(k, s));
+        }
+        for (int s = 0; s < 7; s++) due(32, "sure(" + s + ")", x.sure(s), o.sure(s));
+        for (int w = 0; w < 2; w++) due(33, "next(" + w + ")", x.next(w), o.next(w));
     }
 
     private void due(int call, String text, int got, int want) {
@@ -94,7 +167,10 @@ public final class OracleTest {
     }
 
     private void word(boolean name) {
-        int[] w = drawWord();
+        find(name, drawWord());
+    }
+
+    private void find(boolean name, int[] w) {
         due(2, "word(" + name + ", " + w[0] + ", " + w[1] + ", " + w[2] + ", " + w[3] + ", " + w[4] + ")",
             x.word(name, w[0], w[1], w[2], w[3], w[4]), o.word(name, w));
     }
@@ -235,7 +311,7 @@ public final class OracleTest {
                 due(31, "value(" + v + ", " + a + ")", x.value(v, a), o.value(v, a)); break;
             case 10: due(32, "sure(" + a + ")", x.sure(a), o.sure(a)); break;
             case 11: int n = near(0, 1); due(33, "next(" + n + ")", x.next(n), o.next(n)); break;
-            case 12: if (random.nextInt(4) == 0) tell(); break;
+            case 12: if (random.nextInt(2) == 0) tell(); break;
             default: tape(); break;
         }
         if (random.nextInt(15) == 0) whole();

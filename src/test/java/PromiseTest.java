@@ -600,6 +600,10 @@ public final class PromiseTest {
         textFault("kk open:drop;", 1, 0);
         textFault("kopen:drop;", 1, 0);
         textFault("k opens:drop;", 1, 2);
+        textFault("k openz:drop;", 1, 2);
+        textFault("k xpen:drop;", 1, 2);
+        textFault("k open:xrop;", 1, 7);
+        textFault("k open:xs t;", 1, 7);
         textFault("k ope$n:drop;", 1, 2);
         textFault("k open$:drop;", 1, 6);
         textFault("k open;drop;", 1, 6);
@@ -624,6 +628,18 @@ public final class PromiseTest {
         textFault("k end:drop;".repeat(16) + " k end:echo;", 3, 177);
         textFault("k end:drop;".repeat(15) + "k end:echo;".repeat(2), 2, 171);
         textFault("k end:drop;".repeat(17) + "k", 1, 188);
+        UnreadScript x = new UnreadScript();
+        put(x, "kkkkk");
+        x.end(1);
+        due("bytes behind the end are none", x.spelling(), NONE);
+        due("the end's place", x.fault(1), 1);
+        put(x, "k open:drop;kkk");
+        x.end(12);
+        due("bytes behind the end are none", x.spelling(), 1);
+        put(x, "kaka");
+        x.end(2);
+        x.name();
+        due("bytes behind the end are none", x.spelled(0, 1), NONE);
     }
 
     private static void spells(String lines, String text, int... values) {
@@ -777,6 +793,7 @@ public final class PromiseTest {
         due("none if broken", x.readings(), 0);
         x.view(0);
         due("not by a view ahead", x.readings(), 2);
+        columnReadings();
         UnreadScript y = new UnreadScript();
         find(y, true, 1, 2, 1);
         find(y, true, 1, 2, 3);
@@ -790,6 +807,31 @@ public final class PromiseTest {
         due("not in all", y.sure(2), NONE);
         due("next: the words 0 and 2 leave 1", y.next(0), 0);
         due("left", y.next(1), 1);
+    }
+
+    private static void columnReadings() {
+        String[][] pairs = {{"ka", "ta"}, {"ke", "te"}, {"si", "i"}, {"o", "ro"}, {"ke", "ta"}, {"ka", "to"}, {"i", "ko"}};
+        for (int i = 0; i < pairs.length; i++) {
+            UnreadScript x = new UnreadScript();
+            find(x, true, 6);
+            find(x, true, 8);
+            x.tell(0, 2);
+            x.tell(1, 2);
+            name(x, pairs[i][0]);
+            name(x, pairs[i][1]);
+            due("one vowel: " + pairs[i][0] + " " + pairs[i][1], x.readings(), i < 4 ? 2 : 0);
+            UnreadScript y = new UnreadScript();
+            find(y, true, 6);
+            find(y, true, 8);
+            find(y, false, 1, 1, 6);
+            find(y, false, 1, 1, 8);
+            String[] rowPairs = {"kake", "tito", "eo", "rari", "kata", "ona", "neke"};
+            String both = rowPairs[i];
+            int half = both.length() == 2 ? 1 : both.length() - 2;
+            name(y, both.substring(0, half));
+            name(y, both.substring(half));
+            due("one consonant: " + both, y.readings(), i < 4 ? 2 : 0);
+        }
     }
 
     private static void manyReadings() {
