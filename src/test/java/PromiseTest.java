@@ -859,6 +859,30 @@ public final class PromiseTest {
         due("gaps", y.readings(), 95040);
         due("no value", y.value(5, 0), NONE);
         due("nothing sure", y.sure(0), NONE);
+        fullObject();
+    }
+
+    /** Every row of the object as long as it may be. */
+    private static void fullObject() {
+        UnreadScript x = new UnreadScript();
+        for (int i = 0; i < 48; i++) find(x, false, 19, 18, 17, 16, i % 12);
+        for (int i = 0; i < 12; i++) due("word", find(x, true, i, i, i, i, i), 48 + i);
+        for (int i = 60; i < 150; i++) due("telling", x.tell(i % 60, i % 4), i);
+        due("broken", x.breaker() != NONE, true);
+        UnreadScript y = new UnreadScript();
+        for (int i = 0; i < 48; i++) find(y, false, 19, 18, 17, 16, 15);
+        for (int i = 0; i < 12; i++) find(y, true, i, i, i, i, i);
+        String[] names = {"ka", "te", "pi", "so", "na"};
+        for (int i = 0; i < 5; i++) due("a name of ten letters", name(y, names[i].repeat(5)), i);
+        due("readings", y.readings(), 95040);
+        for (int i = 0; i < 5; i++) {
+            due("the last reading", y.reading(95039, i), 59 - i);
+            due("its value", y.value(95039, 11 - i), y.spelled(i, 4));
+            due("no sixth value", y.spelled(i, 5), NONE);
+        }
+        due("no sixth name", y.reading(0, 5), NONE);
+        due("no sixth name", y.spelled(5, 0), NONE);
+        due("signs that are used", y.many(9), 17);
     }
 
     private static void views() {
