@@ -134,19 +134,22 @@ public final class BoundaryTest {
         x.count(account, true, 0, 1, 0, 0);
     }
 
-    /** All that a call can ask of the object, in one text. */
+    /** What the calls answer of all that lived() and its kin tell, in one text; some 110 calls. */
     private static String state(UnreadScript x) {
         StringBuilder s = new StringBuilder();
         for (int what = 0; what < 10; what++) s.append(x.many(what)).append(' ');
-        for (int w = 0; w < x.many(0); w++) for (int what = 0; what < 15; what++) s.append(x.about(w, what)).append(' ');
-        for (int k = 0; k < x.many(1); k++) for (int what = 0; what < 3; what++) s.append(x.telling(k, what)).append(' ');
-        for (int sign = 0; sign < 20; sign++) {
+        int[] asked = {0, 1, 2, 3, 4, 10, 11, 12};
+        int words = x.many(0);
+        for (int w = 0; w < words; w++) for (int what : asked) s.append(x.about(w, what)).append(' ');
+        int tellings = x.many(1);
+        for (int k = 0; k < tellings; k++) for (int what = 0; what < 3; what++) s.append(x.telling(k, what)).append(' ');
+        for (int sign : new int[] {1, 2, 3, 4, 7}) {
             s.append(x.row(sign)).append(' ').append(x.column(sign)).append(' ').append(x.sure(sign)).append(' ');
             for (int what = 0; what < 3; what++) s.append(x.use(sign, what)).append(' ');
         }
         s.append(x.breaker()).append(' ').append(x.sets()).append(' ').append(x.odd(0)).append(' ').append(x.readings());
         for (int i = 0; i < 3; i++) s.append(' ').append(x.sureRatio(i)).append(' ').append(x.ratio(0, i));
-        for (int n = 0; n < 5; n++) for (int k = 0; k < 5; k++) s.append(' ').append(x.spelled(n, k));
+        for (int n = 0; n < 2; n++) for (int k = 0; k < 4; k++) s.append(' ').append(x.spelled(n, k));
         return s.append(' ').append(x.fault(0)).append(' ').append(x.fault(1)).toString();
     }
 
@@ -244,6 +247,76 @@ public final class BoundaryTest {
             due("tellings", x.many(1), 7);
             due("names", x.many(3), 2);
         }
+    }
+
+    /** The same, with a view that goes back: nothing of the later one is left. */
+    private static void t1_aViewThatGoesBack() {
+        UnreadScript x = fresh();
+        find(x, 9, 9, 1);
+        x.account();
+        x.count(0, false, 3, 0, 0, 0);
+        x.day(1);
+        find(x, 9, 9, 2);
+        find(x, 3);
+        find(x, 4);
+        x.tell(3, 1);
+        x.tell(2, 1);
+        x.count(0, true, 0, 1, 0, 0);
+        x.site(1);
+        find(x, 5);
+        x.day(2);
+        x.site(0);
+        find(x, 5);
+        for (int view = 2; view >= 0; view--) {
+            boolean seen = view >= 1;
+            x.view(view);
+            due("row", x.row(2), seen ? 1 : 2);
+            due("column", x.column(4), seen ? 3 : 4);
+            due("sure ratio", x.sureRatio(0), seen ? 3 : NONE);
+            due("sets", x.sets(), seen ? 121 : 1331);
+            due("5 and 1 of one site on day 2 alone", x.one(5, 1), view == 1);
+            due("words", x.many(7), seen ? view + 4 : 1);
+        }
+    }
+
+    /** A view of a day before all that is told has nothing of it. */
+    private static void t1_aViewBeforeAll() {
+        UnreadScript x = fresh();
+        x.account();
+        x.count(0, true, 0, 1, 0, 0);
+        x.day(1);
+        find(x, 3);
+        find(x, 4);
+        x.tell(0, 1);
+        x.tell(1, 1);
+        x.count(0, false, 5, 0, 0, 0);
+        find(x, 7, GAP);
+        x.day(2);
+        find(x, 7, 8);
+        due("column by now", x.column(4), 3);
+        due("ratio by now", x.sureRatio(0), 5);
+        due("fills by now", x.fills(2), 1);
+        x.view(1);
+        due("a word of the next day fills nothing", x.fills(2), 0);
+        due("nor is it a fill", x.fill(2, 0), NONE);
+        x.view(0);
+        due("column", x.column(4), 4);
+        due("a total alone", x.sets(), 1331);
+        due("used", x.many(9), 0);
+    }
+
+    /** A case is one word's: the cases of others, told later, are not its own. */
+    private static void t1_eachWordHasItsOwnCase() {
+        UnreadScript x = fresh();
+        for (int i = 0; i < 4; i++) find(x, i);
+        for (int i = 3; i >= 1; i--) x.tell(i, i);
+        due("none told of word 0", x.about(0, 4), NONE);
+        for (int i = 1; i < 4; i++) due("case of word " + i, x.about(i, 4), i);
+        x.tell(2, 0);
+        due("told anew", x.about(2, 4), 0);
+        due("the others stay", x.about(3, 4) * 10 + x.about(1, 4), 31);
+        find(x, 5);
+        due("a new word has none", x.about(4, 4), NONE);
     }
 
     /** The same of readings: they are counted by the words and names of the view's day. */
@@ -355,6 +428,14 @@ public final class BoundaryTest {
         due("no row", x.row(7), 7);
     }
 
+    /** The order in which cases are told is free. */
+    private static void t2_casesToldFromTheLastWordOn() {
+        UnreadScript x = fresh();
+        for (int i = 0; i < 5; i++) find(x, 10 + i);
+        for (int i = 4; i >= 0; i--) x.tell(i, 0);
+        for (int i = 0; i < 5; i++) due("column of " + (10 + i), x.column(10 + i), 10);
+    }
+
     /** "What goes on from SIGN to SIGN so", "each told by its least SIGN" */
     private static void t2_aChainIsToldByItsLeastSign() {
         UnreadScript x = fresh();
@@ -394,6 +475,21 @@ public final class BoundaryTest {
         y.tell(0, 0);
         y.tell(2, 0);
         due("a row and a column that share one sign", y.breaker(), NONE);
+    }
+
+    /** The same, at both ends of the signs. */
+    private static void t2_anyTwoUnlikeSignsBreakIt() {
+        for (int a = 0; a < 20; a++) {
+            for (int b = 0; b < a; b++) {
+                UnreadScript x = fresh();
+                find(x, 5, 5, a);
+                find(x, 5, 5, b);
+                x.tell(0, 3);
+                due("not yet", x.breaker(), NONE);
+                x.tell(1, 3);
+                due("broken by " + a + " and " + b, x.breaker(), 3);
+            }
+        }
     }
 
     /** "two unlike SIGNS are of one ROW and of one COLUMN", far along both. */
@@ -462,6 +558,21 @@ public final class BoundaryTest {
         find(x, 3, 2, 2, 2);
         due("another sign", x.twins(1, 2), 2);
         due("another sign", x.twins(1, 3), 2);
+    }
+
+    /** "they are all in which these differ": both of them, whichever is asked first or stands earlier. */
+    private static void t2_twinsAreBothOfTheTwo() {
+        UnreadScript x = fresh();
+        find(x, 4);
+        find(x, 7);
+        find(x, 9);
+        int[] signs = {4, 7, 9, 0};
+        for (int a : signs) {
+            for (int b : signs) {
+                int want = a == b ? NONE : a == 0 || b == 0 ? 0 : 1;
+                due("twins of " + a + " and " + b, x.twins(a, b), want);
+            }
+        }
     }
 
     /** "pairs of WORDS without a GAP, of one length": length one is a length. */
@@ -561,6 +672,24 @@ public final class BoundaryTest {
         due("a word of two", x.fill(2, 0), 2);
     }
 
+    /** "would be another WORD": every sign but the gap is the same, wherever the gap is. */
+    private static void t2_aFillLeavesEveryOtherSign() {
+        for (int gap = 0; gap < 5; gap++) {
+            for (int other = 0; other < 5; other++) {
+                UnreadScript x = fresh();
+                int[] holed = {1, 2, 3, 4, 5};
+                holed[gap] = GAP;
+                find(x, holed);
+                int[] whole = {1, 2, 3, 4, 5};
+                whole[other] = 9;
+                find(x, whole);
+                boolean fits = other == gap || other == 4 && gap != 4;
+                due("gap " + gap + ", another sign at " + other, x.fills(0), fits ? 1 : 0);
+                due("the fill", x.fill(0, 0), !fits ? NONE : other == gap ? 9 : gap + 1);
+            }
+        }
+    }
+
     /** "its GAP not being the last one" */
     private static void t2_aLastGapIsFilledByEqualStemsAlone() {
         UnreadScript x = fresh();
@@ -655,6 +784,24 @@ public final class BoundaryTest {
         due("nothing is nothing by all", y.sets(), 1331);
     }
 
+    /** Rows of the last day are rows as any other: both counts and days stand at their greatest. */
+    private static void t3_rowsOfTheLastDay() {
+        UnreadScript x = fresh();
+        for (int i = 0; i < 10; i++) x.account();
+        x.day(998);
+        x.count(9, false, 9, 9, 9, 9);
+        x.day(999);
+        x.count(9, true, 9, 9, 9, 8);
+        due("by now", x.sets(), 0);
+        due("it is odd", x.odd(0), 9);
+        x.view(998);
+        due("by the day before", x.sets(), 1331);
+        x.view(999);
+        due("by its own day", x.sets(), 0);
+        x.count(9, true, 9, 9, 9, 9);
+        due("told anew on that day", x.sets(), 1331);
+    }
+
     /** "SETS of RATIOS ... in order (first, second, third)" */
     private static void t3_setsAreInOrder() {
         UnreadScript x = fresh();
@@ -672,6 +819,24 @@ public final class BoundaryTest {
             due("second", x.ratio(k, 1), 12 / firsts[k / 11]);
             due("third", x.ratio(k, 2), 2 + k % 11);
         }
+    }
+
+    /** One set at least is there: one alone is enough for a ratio that is sure, and none is odd. */
+    private static void t3_oneSetIsEnough() {
+        UnreadScript x = fresh();
+        for (int i = 0; i < 3; i++) x.account();
+        x.count(0, false, 2, 0, 0, 0);
+        x.count(0, true, 0, 1, 0, 0);
+        due("an account that would be odd to other sets", x.odd(0), NONE);
+        x.count(1, false, 0, 7, 0, 0);
+        x.count(1, true, 0, 0, 1, 0);
+        x.count(2, false, 0, 0, 5, 0);
+        x.count(2, true, 0, 0, 0, 1);
+        due("one set", x.sets(), 1);
+        int[] want = {2, 7, 5};
+        for (int i = 0; i < 3; i++) due("ratio " + i, x.sureRatio(i), want[i]);
+        due("none is odd", x.odd(0), NONE);
+        due("no second set", x.ratio(1, 0), NONE);
     }
 
     /** "ODD, if there are no SETS" */
@@ -767,6 +932,11 @@ public final class BoundaryTest {
         badSpelling("k open:as tk;", 1, 10);
         badSpelling("k ope n:drop;", 1, 2);
         badSpelling("k open:a s t;", 1, 7);
+        badSpelling("k opena:drop;", 1, 2);
+        badSpelling("k openz:drop;", 1, 2);
+        badSpelling("k open`:drop;", 1, 6);
+        badSpelling("k open{:drop;", 1, 6);
+        badSpelling("k aopen:drop;", 1, 2);
         goodSpelling("k open:drop;k end:drop;", 2);
     }
 
@@ -793,6 +963,24 @@ public final class BoundaryTest {
                 badSpelling("k open:as " + c + ";", 1, 10);
             }
         }
+    }
+
+    /** "'open' | 'cluster' | 'end'", "'drop' | 'echo' | 'last' | 'as'": just these words, letter by letter. */
+    private static void t4_wordsOfALine() {
+        for (String stand : new String[] {"open", "cluster", "end"}) {
+            for (int i = 0; i < stand.length(); i++) {
+                badSpelling("k " + stand.substring(0, i) + "x" + stand.substring(i + 1) + ":drop;", 1, 2);
+                badSpelling("k " + stand.substring(0, i) + stand.substring(i + 1) + ":drop;", 1, 2);
+            }
+        }
+        for (String action : new String[] {"drop", "echo", "last", "as"}) {
+            for (int i = 0; i < action.length(); i++) {
+                badSpelling("k cluster:" + action.substring(0, i) + "x" + action.substring(i + 1) + " t;", 1, 10);
+                badSpelling("k cluster:" + action.substring(0, i) + action.substring(i + 1) + ";", 1, 10);
+            }
+        }
+        badSpelling("k Open:drop;", 1, 2);
+        badSpelling("K open:drop;", 1, 0);
     }
 
     /** "1 the first byte or token with which no text goes on" with "places (a token's first byte; the end's)" */
@@ -864,6 +1052,28 @@ public final class BoundaryTest {
         spells("t open:drop;".repeat(15) + "k open:as r;", "ka", 24);
     }
 
+    /** "for it and where it stands": a line is for its own consonant and its own place alone. */
+    private static void t4_aLineIsForItsOwnConsonantAndPlace() {
+        String consonants = "ktpsnr";
+        String[] stands = {"open", "cluster", "end"};
+        String[] names = {"%si", "a%sre", "o%s"};
+        for (int line = 0; line < 18; line++) {
+            String to = line / 3 == 5 ? "k" : "r";
+            int other = line / 3 == 5 ? 1 : 6;
+            for (int asked = 0; asked < 18; asked++) {
+                int c = asked / 3 + 1;
+                int by = asked == line ? other : c;
+                String lines = consonants.charAt(line / 3) + " " + stands[line % 3] + ":as " + to + ";";
+                String name = String.format(names[asked % 3], consonants.charAt(c - 1));
+                boolean joined = line == 15;
+                if (asked % 3 == 0) spells(lines, name, 4 * by + 2);
+                else if (asked % 3 == 1) spells(lines, name, 0, 4 * by + 1, joined ? 5 : 25);
+                else if (asked == line) spells(lines, name, 3, 4 * by + 3);
+                else spells(lines, name, 3);
+            }
+        }
+    }
+
     /** "a vowel that no consonant ahead of it takes" */
     private static void t4_vowelsThatNoConsonantTakes() {
         spells("", "a", 0);
@@ -920,6 +1130,29 @@ public final class BoundaryTest {
         name(x, "t");
         due("nor of none", x.readings(), 0);
         due("none is spelled", x.reading(0, 0), NONE);
+    }
+
+    /** The same of the fifth name as of the first, each of ten letters and of five values. */
+    private static void t4_fiveNamesOfTenLetters() {
+        UnreadScript x = fresh();
+        spelling(x, "k cluster:last;t end:last;");
+        String[] names = {"kakekikoka", "tatetitota", "papepipopa", "sasesisosa", "naneninona"};
+        for (int n = 0; n < 5; n++) due("name", name(x, names[n]), n);
+        for (int n = 0; n < 5; n++)
+            for (int k = 0; k <= 5; k++) due("value " + k + " of name " + n, x.spelled(n, k), k == 5 ? NONE : 4 * (n + 1) + k % 4);
+        for (int n = 4; n >= 0; n--) findName(x, 4 * n, 4 * n + 1, 4 * n + 2, GAP, 4 * n);
+        for (int i = 5; i < 12; i++) findName(x, 19, 19, 19, i, i);
+        due("readings of twelve words of five signs", x.readings(), 120);
+        for (int n = 0; n < 5; n++) due("the last reading", x.reading(119, n), 4 - n);
+        due("no sixth name", x.reading(0, 5), NONE);
+        due("no sixth name", x.spelled(5, 0), NONE);
+        UnreadScript y = fresh();
+        spelling(y, "k cluster:last;t end:last;");
+        String[] ends = {"aktet", "ektit", "iktot", "oktat", "akt"};
+        for (String text : ends) name(y, text);
+        int[][] want = {{0, 4, 9, 9}, {1, 5, 10, 10}, {2, 6, 11, 11}, {3, 7, 8, 8}, {0, 4, 8, NONE}};
+        for (int n = 0; n < 5; n++)
+            for (int k = 0; k < 4; k++) due("value " + k + " of " + ends[n], y.spelled(n, k), want[n][k]);
     }
 
     /** "A READING (if one NAME at least is SPELLED)" */
@@ -1026,6 +1259,110 @@ public final class BoundaryTest {
         }
     }
 
+    /** The same for signs at both ends. */
+    private static void t4_rowsAndColumnsOfAnySign() {
+        for (int a = 0; a < 20; a++) {
+            int b = (a + 1) % 20;
+            UnreadScript x = fresh();
+            findName(x, a);
+            findName(x, b);
+            name(x, "ka");
+            name(x, "te");
+            due("free", x.readings(), 2);
+            x.tell(0, 1);
+            x.tell(1, 1);
+            due("one vowel for " + a + " and " + b, x.readings(), 0);
+            UnreadScript y = fresh();
+            findName(y, a);
+            findName(y, b);
+            name(y, "ka");
+            name(y, "te");
+            find(y, 5, 5, a);
+            find(y, 5, 5, b);
+            due("one consonant for " + a + " and " + b, y.readings(), 0);
+        }
+    }
+
+    /** "each SIGN ... has one VALUE": what an earlier word gave a sign stands while a later one is tried. */
+    private static void t4_laterSignsOfAWordCount() {
+        for (int sign = 0; sign < 20; sign++) {
+            int second = (sign + 1) % 20;
+            int third = (sign + 2) % 20;
+            UnreadScript x = fresh();
+            findName(x, sign);
+            findName(x, sign, second);
+            findName(x, sign, third);
+            name(x, "ka");
+            name(x, "kata");
+            due("readings", x.readings(), 2);
+            due("the second sign in the first", x.value(0, second), 8);
+            due("the second sign in the other", x.value(1, second), NONE);
+            due("the third sign in the other", x.value(1, third), 8);
+            due("the shared sign", x.value(0, sign) * 100 + x.value(1, sign), 404);
+            due("sure of it", x.sure(sign), 4);
+            due("not of the second", x.sure(second), NONE);
+            name(x, "kate");
+            due("two ways still", x.readings(), 2);
+            due("the shared sign is sure still", x.sure(sign), 4);
+        }
+        UnreadScript y = fresh();
+        findName(y, GAP, 1);
+        findName(y, 1);
+        name(y, "kata");
+        name(y, "ka");
+        due("the sign behind a gap counts", y.readings(), 0);
+        name(y, "ta");
+        due("nor with a name too many", y.readings(), 0);
+        UnreadScript z = fresh();
+        findName(z, GAP, 1);
+        findName(z, 1);
+        name(z, "kata");
+        name(z, "ta");
+        due("the sign behind a gap counts", z.value(0, 1), 8);
+    }
+
+    /** The same: a value that can't be the sign's is refused for every word, not for the first alone. */
+    private static void t4_aSignKeepsItsValueForEveryWord() {
+        for (int sign = 0; sign < 20; sign++) {
+            UnreadScript x = fresh();
+            findName(x, sign);
+            findName(x, sign, (sign + 1) % 20);
+            findName(x, sign, (sign + 2) % 20);
+            name(x, "ka");
+            name(x, "teta");
+            due("sign " + sign + " is ka", x.readings(), 0);
+        }
+    }
+
+    /** Ways that lead to no reading leave no trace in what is sure. */
+    private static void t4_waysThatEndNowhere() {
+        UnreadScript x = fresh();
+        findName(x, 1, 2);
+        findName(x, 2, 1);
+        findName(x, 1);
+        name(x, "kata");
+        name(x, "ka");
+        // 2 1 as kata gives 2 the value ka, and then 1 can't be ka
+        due("readings", x.readings(), 1);
+        due("sure of 1", x.sure(1), 4);
+        due("sure of 2", x.sure(2), 8);
+        due("the word", x.reading(0, 0), 0);
+        due("next", x.next(0) * 10 + x.next(1), 1);
+        UnreadScript y = fresh();
+        findName(y, 1, 1);
+        findName(y, 2, 3);
+        name(y, "kata");
+        // 1 can be ka, but not ta then
+        due("readings", y.readings(), 1);
+        due("sure of 1", y.sure(1), NONE);
+        due("sure of 2", y.sure(2), 4);
+        UnreadScript z = fresh();
+        findName(z, 1, 1);
+        findName(z, 1, 3);
+        name(z, "kata");
+        due("sure of a sign that also failed", z.sure(1), 4);
+    }
+
     /** "There is none if THE GRID is BROKEN." */
     private static void t4_noReadingOfABrokenGrid() {
         UnreadScript x = fresh();
@@ -1104,6 +1441,17 @@ public final class BoundaryTest {
         name(y, "a");
         due("all have it, the least word", y.next(0), 0);
         due("all readings", y.next(1), 1);
+        UnreadScript z = fresh();
+        for (int s = 3; s >= 1; s--) findName(z, s);
+        find(z, 5, 5, 1);
+        find(z, 5, 5, 2);
+        name(z, "ka");
+        name(z, "ki");
+        name(z, "te");
+        // 3 is te in both readings; 1 and 2 are ka and ki, or ki and ka
+        due("readings", z.readings(), 2);
+        due("the first that parts them", z.next(0), 1);
+        due("one is left", z.next(1), 1);
     }
 
     // Promises 1 to 8.
@@ -1470,6 +1818,23 @@ public final class BoundaryTest {
         due("by the day before", x.breaker(), NONE);
     }
 
+    /** Asked again, and with "one" asked in between, it is the same. */
+    private static void p11_theBreakerAskedAgain() {
+        UnreadScript x = fresh();
+        find(x, 1, 2, 3);
+        find(x, 1, 2, 4);
+        find(x, 6);
+        x.tell(2, 1);
+        x.tell(1, 1);
+        x.tell(0, 1);
+        for (int i = 0; i < 3; i++) {
+            due("breaker", x.breaker(), 5);
+            due("one", x.one(3, 6), false);
+        }
+        x.tell(2, 0);
+        due("still the first", x.breaker(), 5);
+    }
+
     /** The last telling that there can be may be the breaker. */
     private static void p11_the150thTellingBreaksIt() {
         UnreadScript x = fresh();
@@ -1593,6 +1958,8 @@ public final class BoundaryTest {
         for (int s = 19; s >= 0; s--) find(x, 5, s);
         due("all signs", x.fills(0), 20);
         for (int k = 0; k < 20; k++) due("fill " + k, x.fill(0, k), k);
+        for (int i = 21; i < 60; i++) find(x, 6, 6);
+        due("of sixty words", x.fill(0, 19), 19);
         due("fill 20", x.fill(0, 20), NONE);
         due("fill -1", x.fill(0, NONE), NONE);
         due("a word without a gap", x.fill(1, 0), NONE);
@@ -1873,6 +2240,17 @@ public final class BoundaryTest {
         due("names", x.many(3), 5);
         due("the fifth", x.spelled(4, 0), 4);
         due("no sixth", x.spelled(5, 0), NONE);
+    }
+
+    /** "The tape is taken (and is empty then)": of a sixth name, too, though no text is read. */
+    private static void p26_aSixthNameTakesTheTape() {
+        UnreadScript x = fresh();
+        for (int i = 0; i < 5; i++) name(x, "a");
+        write(x, 0, "kakaka");
+        due("a sixth", x.name(), NO_SUCH);
+        due("empty", x.end(1), NONE);
+        due("feed starts anew", x.feed(0x6b206f70, 0x656e3a64, 0x726f703b, 0x20202020, 0x20202020), 20);
+        due("a line", x.spelling(), 1);
     }
 
     /** A name with a fault takes none of the five. */
@@ -2275,6 +2653,86 @@ public final class BoundaryTest {
         }
     }
 
+    /** "All that is as image k has it": what was told over the same places since is gone. */
+    private static void p37_anotherHistoryOverTheSamePlaces() {
+        UnreadScript x = fresh();
+        x.image(0);
+        history(x, 1);
+        x.image(1);
+        x.again(0);
+        history(x, 2);
+        x.image(2);
+        for (int round = 0; round < 2; round++) {
+            for (int h = 1; h <= 2; h++) {
+                due("again " + h, x.again(h), true);
+                isHistory(x, h);
+            }
+        }
+        x.again(0);
+        due("nothing", x.many(0) + x.many(1) + x.many(2) + x.many(3) + x.many(4) + x.many(5), 0);
+        faultIs(x, 0, NONE);
+    }
+
+    /** Of each kind of thing some, of which every part is another in history 1 and 2. */
+    private static void history(UnreadScript x, int h) {
+        x.site(h);
+        x.day(10 * h);
+        found(x, h == 1, h, h + 1, h == 1 ? GAP : 7, 8, 10 + h);
+        found(x, h == 2, h, h + 1, h == 1 ? 7 : GAP, 8, 12 + h);
+        find(x, h == 1 ? new int[] {1, 1, 1, 17} : new int[] {2, 2, 2, 2, 18});
+        x.tell(h, h);
+        for (int i = 0; i < 10; i++) x.account();
+        for (int i = 0; i < 2 * h; i++) x.count(9, false, 2, 0, 0, 0);
+        x.count(9, true, 0, 1, 0, 0);
+        name(x, h == 1 ? "or" : "pepipopapi");
+        x.day(10 * h + h);
+        name(x, h == 1 ? "kakekikoka" : "so");
+        spelling(x, h == 1 ? "r end:as k;" : "r end:as t;k cluster:drop;");
+        x.day(100);
+        name(x, h == 1 ? "tatetitota" : "kkkkkkkkir");
+        spelling(x, h == 1 ? "k open:last;" : "kk");
+        write(x, 0, h == 1 ? "tata" : "ni");
+        x.view(h);
+    }
+
+    private static void isHistory(UnreadScript x, int h) {
+        due("the view", x.many(6), h);
+        faultIs(x, h == 1 ? 2 : 1, h == 1 ? 7 : 0);
+        x.view(NONE);
+        int[] many = {3, 4, 10, 3, h, 100, NONE, 3, 3, 7};
+        for (int what = 0; what < 10; what++) due("many " + what, x.many(what), many[what]);
+        int[] first = {5, h, 10 * h, h == 1 ? 1 : 0, NONE};
+        for (int what = 0; what < 5; what++) due("about 0 " + what, x.about(0, what), first[what]);
+        due("may be a name's", x.about(1, 3), h == 2 ? 1 : 0);
+        int[] signs = {h, h + 1, h == 1 ? GAP : 7, 8, 10 + h};
+        for (int k = 0; k < 5; k++) due("sign " + k, x.about(0, 10 + k), signs[k]);
+        due("the last word's length", x.about(2, 0), 3 + h);
+        due("its last sign", x.about(2, 12 + h), 16 + h);
+        due("the case", x.about(h, 4), h);
+        due("told of", x.telling(3, 0) * 10 + x.telling(3, 1), 11 * h);
+        due("told on", x.telling(3, 2), 10 * h);
+        due("fills of the one with a gap", x.fills(h - 1), 1);
+        due("fills of the one without", x.fills(2 - h), NONE);
+        due("the first ratio", x.sureRatio(0), 4 * h);
+        due("spelled 0", x.spelled(0, h == 1 ? 1 : 4), h == 1 ? 7 : 14);
+        due("spelled 1", x.spelled(1, h == 1 ? 4 : 0), h == 1 ? 4 : 19);
+        due("spelled 2", x.spelled(2, h == 1 ? 4 : 1), h == 1 ? 8 : 10);
+        due("spelled 3", x.spelled(3, 0), NONE);
+        int[] days = {10 * h - 1, 10 * h, 11 * h - 1, 11 * h, 99, 100};
+        int[] names = {0, 1, 1, 2, 2, 3};
+        for (int i = 0; i < 6; i++) {
+            x.view(days[i]);
+            due("names by " + days[i], x.many(8), names[i]);
+            due("words by " + days[i], x.many(7), i == 0 ? 0 : 3);
+            due("sets by " + days[i], x.sets(), i == 0 ? 1331 : 121);
+        }
+        x.view(NONE);
+        due("a plain row more", x.count(9, false, 1, 0, 0, 0), 2 * h + 1);
+        due("the tape's end", x.end(h == 1 ? 5 : 3), NONE);
+        due("the tape", x.name(), 3);
+        due("its first", x.spelled(3, 0), h == 1 ? 8 : 22);
+    }
+
     // The 512 calls, and refused calls.
 
     /** "An object is used for at most 512 calls": rows told anew to the last of them hold. */
@@ -2310,15 +2768,15 @@ public final class BoundaryTest {
 
     /** A call that is refused, and a call that asks, leaves all as it was. */
     private static void t0_refusedCallsChangeNothing() {
-        UnreadScript x = lived();
-        String before = state(x);
         for (int v : FAR) {
+            UnreadScript x = lived();
+            String before = state(x);
             x.site(v);
             x.word(true, v, 1, 2, 3, 4);
             x.word(false, 1, 2, 3, 4, v);
             x.tell(v, 0);
             x.tell(0, v);
-            if (v < 0 || v > 999) x.day(v);
+            x.day(v < 0 ? v : Math.max(v, 1000));
             x.view(v);
             x.count(v, true, 1, 1, 1, 1);
             x.count(0, true, v, 1, 1, 1);
@@ -2328,16 +2786,18 @@ public final class BoundaryTest {
             x.again(v);
             x.one(v, 1);
             x.twins(1, v);
+            x.fill(v, v);
+            x.ratio(v, v);
             x.reading(v, v);
             x.value(v, v);
+            x.one(1, 2);
+            x.breaker();
             due("all as it was", state(x).equals(before), true);
+            due("the tape as it was", x.end(3), NONE);
+            due("the tape as it was", x.end(2), 2);
+            due("pi", x.name(), 1);
+            due("its value", x.spelled(1, 0), 14);
+            due("the site as it was", x.about(find(x, 1), 1), 2);
         }
-        x.one(1, 2);
-        x.breaker();
-        due("all as it was", state(x).equals(before), true);
-        due("the tape as it was", x.end(3), NONE);
-        due("the tape as it was", x.end(2), 2);
-        due("pi", x.name(), 1);
-        due("its value", x.spelled(1, 0), 14);
     }
 }
