@@ -1476,6 +1476,19 @@ public final class BoundaryTest {
         due("an empty tape", x.end(1), NONE);
     }
 
+    /** "No ... SPELLING": names are spelled without a line then, at every place. */
+    private static void p01_namesWithoutASpelling() {
+        UnreadScript x = fresh();
+        name(x, "oktek");
+        int[] want = {3, 5, 9, NONE};
+        for (int k = 0; k < 4; k++) due("value " + k, x.spelled(0, k), want[k]);
+        due("no lines", x.many(4), 0);
+        spelling(x, "k end");
+        for (int k = 0; k < 4; k++) due("value " + k + " behind a fault", x.spelled(0, k), want[k]);
+        spelling(x, "");
+        for (int k = 0; k < 4; k++) due("value " + k + " by a text of no line", x.spelled(0, k), want[k]);
+    }
+
     /** Two objects share nothing. */
     private static void p01_objectsShareNothing() {
         UnreadScript x = lived();
@@ -2616,6 +2629,37 @@ public final class BoundaryTest {
         due("eleven words that may be a name's", x.about(0, 3), 1);
         for (int i = 0; i < 11; i++) due("as many as were left", findName(x, 1), 4 + i);
         due("no more", findName(x, 1), NONE);
+    }
+
+    /** The same, with every row full. */
+    private static void p36_anImageOfAFullObject() {
+        UnreadScript x = fresh();
+        x.day(999);
+        for (int i = 0; i < 60; i++) found(x, i >= 48, i % 20, 1, 2, 3, i % 19);
+        for (int i = 60; i < 150; i++) x.tell(i % 60, i % 4);
+        for (int i = 0; i < 10; i++) x.account();
+        for (int i = 0; i < 60; i++) x.count(i / 6, false, 9, 9, 9, 9);
+        for (int i = 0; i < 10; i++) x.count(i, true, 9, 9, 9, 9);
+        for (int i = 0; i < 5; i++) name(x, i < 4 ? "kakekikoka" : "eeeeeeeeee");
+        spelling(x, "k open:as r;".repeat(16));
+        write(x, 0, " ".repeat(399) + "!");
+        for (int k = 0; k < 3; k++) due("image " + k, x.image(k), true);
+        due("taken", x.spelling(), NONE);
+        faultIs(x, 1, 399);
+        for (int k = 2; k >= 0; k--) {
+            due("again " + k, x.again(k), true);
+            int[] want = {60, 150, 10, 5, 16, 999, NONE, 60, 5, 20};
+            for (int what = 0; what < 10; what++) due("many " + what, x.many(what), want[what]);
+            due("the last sign", x.about(59, 14), 59 % 19);
+            due("the last telling", x.telling(149, 0) * 10 + x.telling(149, 1), 291);
+            due("the first name", x.spelled(0, 4), 24);
+            due("the last name has ten values", x.spelled(4, 0), NONE);
+            due("no room for a row", x.count(9, false, 0, 0, 0, 0), NONE);
+            due("nor on the tape", x.feed(0, 0, 0, 0, 0), NONE);
+            faultIs(x, 0, NONE);
+            due("the tape", x.spelling(), NONE);
+            faultIs(x, 1, 399);
+        }
     }
 
     /** "false if there is none such": then all is as it was. */
