@@ -1099,8 +1099,11 @@ public final class UnreadScript {
                     excess[account * NUMBER_SIGNS + i] -= ledger.countOf(k, i);
                 }
             }
-            hasTotal[account] |= total;
-            hasPlain[account] |= !total;
+            if (total) {
+                hasTotal[account] = true;
+            } else {
+                hasPlain[account] = true;
+            }
         }
 
         private void addTotal(int account) {
